@@ -34,6 +34,9 @@ public final class ModelTest {
     private void go() {
         int size = random.nextInt(3) == 0 ? 10 : 5;
         tellParish(size);
+        if (m.st.owners.isEmpty()) {
+            tellParish(size);
+        }
         while (calls < 480) {
             step(size);
         }
@@ -49,7 +52,7 @@ public final class ModelTest {
 
     /** Mostly a number that there is, sometimes one beyond. */
     private int near(int size) {
-        int k = n(20);
+        int k = n(40);
         return k == 0 ? -1 : k == 1 ? size : k == 2 ? random.nextInt() : size > 0 ? n(size) : 0;
     }
 
@@ -157,10 +160,10 @@ public final class ModelTest {
             int ay = n(high);
             int aw = 1 + n(Math.min(4, wide - ax));
             int ah = 1 + n(Math.min(4, high - ay));
-            if (n(25) != 0 && overlaps(had, ax, ay, aw, ah)) {
+            if (n(200) != 0 && overlaps(had, ax, ay, aw, ah)) {
                 continue;
             }
-            if (n(3) == 0 && strips < 3) {
+            if ((i < 2 || n(3) == 0) && strips < 3) {
                 lines.add(join("strip", STRIPS[strips++], ax, ay, aw, ah));
             } else if (fields < 8) {
                 fields++;
@@ -168,21 +171,26 @@ public final class ModelTest {
             }
         }
         boolean[] stands = new boolean[100];
-        int things = n(16);
+        int things = n(22);
         for (int i = 0; i < things; i++) {
             int cx = n(wide);
             int cy = n(high);
-            if (n(60) != 0 && stands[cy * 10 + cx]) {
+            if (n(200) != 0 && stands[cy * 10 + cx]) {
                 continue;
             }
             stands[cy * 10 + cx] = true;
             lines.add(n(4) == 0 ? join("wall", cx, cy) : join("tree", KINDS[n(kinds)], cx, cy));
         }
-        int winds = n(6);
+        int winds = n(9);
+        java.util.Set<Integer> blown = new java.util.HashSet<>();
         for (int w = 0; w < winds; w++) {
-            lines.add(join("wind", pick(new String[] {"still", "north", "east", "south", "west"}), 1 + n(4), 1 + n(9)));
+            int way = n(5);
+            int force = 1 + n(4);
+            if (blown.add(10 * way + force) || n(50) == 0) {
+                lines.add(join("wind", Model.WAYS.get(way), force, 1 + n(9)));
+            }
         }
-        if (n(15) == 0) {
+        if (n(25) == 0) {
             java.util.Collections.swap(lines, n(lines.size()), n(lines.size()));
         }
         return String.join("", lines);
@@ -453,7 +461,7 @@ public final class ModelTest {
         int o = near(m.st.owners.size());
         int s = near(m.st.strips.size());
         int kind = near(m.st.kinds.size());
-        boolean small = m.st.wide * m.st.high <= 15;
+        boolean small = m.st.wide * m.st.high <= 20 || n(40) == 0;
         switch (n(small ? 3 : 2)) {
             case 0: {
                 int years = near(21);
@@ -475,7 +483,7 @@ public final class ModelTest {
 
     private void drawOnce() {
         if (n(2) == 0) {
-            int many = n(4) == 0 ? near(60) : near(6);
+            int many = n(4) == 0 ? near(61) : near(6);
             int seed = random.nextInt();
             check("drawn " + many + " " + seed, x.drawn(many, seed), m.drawn(many, seed));
         } else {
