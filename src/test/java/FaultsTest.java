@@ -253,6 +253,8 @@ public final class FaultsTest {
         parishAt(blanks(size, 940), 900, 1);
         parishAt(blanks(size, 900) + "owner a;", 900, 1);
         parishAt(blanks(size, 898) + "owner a;", 900, 1);
+        parishAt(blanks(size, 900) + "size 1 1;", 900, 1);
+        parishAt(blanks(size, 899) + "size 1 1;", 899, 3);
         parishAt(blanks(size, 894) + "owner abcd;", 900, 1);
         parishAt(blanks(size, 892) + "owner b;;", 900, 1);
         parishAt(blanks(size, 893) + "owner b   ", 900, 1);
@@ -304,6 +306,8 @@ public final class FaultsTest {
         Due.due("a roll of 400 bytes", Due.roll(x, blanks("blows east 1;", 400), 0), -1);
         roll(blanks("blows east 1;", 400) + "| ", 1);
         roll(blanks("blows east 1;", 399) + "|blowse", 1);
+        roll(forty + blanks("", 80) + "|fells 0;", 1);
+        roll(forty + blanks("", 79) + "|fells 0;", 4);
         Due.due("a roll whose token goes beyond 400 bytes", Due.roll(x, blanks("", 396) + "blows east 1;", 0), -402);
         Due.due("its fault", x.fault(), 1);
     }
@@ -370,6 +374,8 @@ public final class FaultsTest {
         sentenceStands(blanks("alive", 200), 1);
         sentence(blanks("alive", 200) + "| ", 1);
         sentence(blanks("alive", 199) + "|\u0001\u0001", 1);
+        sentence(blanks(nineteen + "ever or", 200) + "|ever", 1);
+        sentence(blanks(nineteen + "ever or", 199) + "|ever", 4);
         LeafVotes x = Due.of(BASE);
         Due.due("a token beyond 200 bytes", Due.sentence(x, blanks("", 197) + "alive"), -201);
         Due.due("its fault", x.fault(), 1);
