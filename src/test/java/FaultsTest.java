@@ -77,6 +77,10 @@ public final class FaultsTest {
         parish("|\u00e9", 1);
         parish("size 1 1|\u0000", 1);
         parish("|,", 1);
+        parish("size |# 1;", 1);
+        parish("size 1 |#;", 1);
+        parish("wall |# 0;", 1);
+        parish("kind k 1 1 |#", 1);
     }
 
     private static void parishLines() {
@@ -348,6 +352,9 @@ public final class FaultsTest {
         sentence("x |; 1", 1);
         sentence("x =|", 1);
         sentence("x = |x", 1);
+        sentence("x = |#", 1);
+        sentence("x |# 1", 1);
+        sentence("|#", 1);
         sentence("x = |100", 1);
         sentence("x = |1or y = 1", 1);
         sentence("x < 1 |< 2", 1);
