@@ -17,7 +17,7 @@ public final class PromiseBoundsTest {
     private static final String ROW = "size 7 1;owner a;owner b;field a 0 0 3 1;field b 4 0 3 1;strip s 3 0 1 1;";
     /** Rows of three, so that x and y can't be taken for one another. */
     private static final String YARD = "size 3 5;owner a;owner b;field a 0 0 3 2;field b 0 3 3 2;strip s 0 2 3 1;"
-        + "kind k 5 2;kind l 3 1;tree k 1 1;tree l 0 3;tree l 2 4;wind south 2 3;wind north 3 2;wind east 1 4;wind still 3 1;";
+        + "kind k 5 3;kind l 3 1;tree k 1 1;tree l 0 3;tree l 2 4;wind south 4 3;wind north 3 2;wind east 1 4;wind still 3 1;";
 
     public static void main(String[] args) {
         likelyWithoutWinds();
@@ -38,6 +38,7 @@ public final class PromiseBoundsTest {
         faultAheadOfAny();
         votedForNone();
         noSackYet();
+        stripsAsBits();
         changedHands();
         lostYet();
         eightAreKept();
@@ -266,7 +267,7 @@ public final class PromiseBoundsTest {
             }
             int chance = draws.of(10);
             if (chance < 3) {
-                x.blow(SOUTH, 2);
+                x.blow(SOUTH, 4);
             } else if (chance < 5) {
                 x.blow(NORTH, 3);
             } else if (chance < 9) {
@@ -323,10 +324,26 @@ public final class PromiseBoundsTest {
         due("no sentence", x.said(NONE), NONE);
         due("none of it for any tree", x.said(0), NONE);
         due("nothing to undo", x.undo(), NONE);
-        Due.parish(x, YARD);
-        Seen.alike("all anew", x, Due.of(YARD));
+        for (int n = 0; n < 4; n++) {
+            Due.parish(x, YARD);
+            Seen.alike("all anew", x, Due.of(YARD));
+            x.blow(n % 2 == 0 ? NORTH : SOUTH, 1);
+            due("the strip is had", x.strip(0, 1) != NONE, 1);
+            x.blow(STILL, 1);
+            x.wall(2, 2);
+            x.rake(1, 2);
+        }
         Due.parish(x, "");
         Seen.alike("all empty", x, new LeafVotes());
+        // No evergreen of the old parish is one in the new one.
+        for (int n = 0; n < 3; n++) {
+            Due.parish(x, ROW + "kind k 1 1 ever;tree k 2 0;");
+            due("an evergreen", x.votes(0, 0, STILL, 1), NONE);
+        }
+        for (int n = 0; n < 3; n++) {
+            Due.parish(x, ROW + "kind k 1 1;tree k 2 0;");
+            due("none", x.votes(0, 0, STILL, 1), 0);
+        }
     }
 
     // 1: "A PARISH of 6 6, empty; an empty tape"
@@ -343,6 +360,8 @@ public final class PromiseBoundsTest {
         due("strip 0", x.strip(0, 0), NONE);
         due("it can blow", x.blow(WEST, 4), 0);
         due("none is lost", x.now(5), 0);
+        due("an empty roll", x.roll(0), NONE);
+        due("nobody has strip 0", x.rolled(3), NONE);
         Seen.alike("two new ones", new LeafVotes(), new LeafVotes());
     }
 
@@ -459,6 +478,35 @@ public final class PromiseBoundsTest {
         }
         x.undo();
         due("one less", x.strip(0, 3), 198);
+        due("strips that b has, as bits", x.owner(1, 1), 1);
+        due("strips that a has", x.owner(0, 1), 0);
+    }
+
+    // 8: "1 STRIPS that he has, as bits"
+    private static void stripsAsBits() {
+        LeafVotes x = Due.of("size 9 1;owner a;owner b;strip p 1 0 1 1;strip q 4 0 1 1;strip r 7 0 1 1;field a 0 0 1 1;field b 3 0 1 1;"
+            + "field a 8 0 1 1;kind k 1 1;tree k 0 0;tree k 3 0;tree k 8 0;");
+        due("a has none", x.owner(0, 1), 0);
+        due("b has none", x.owner(1, 1), 0);
+        due("voices of a in p", x.voices(0, 0, STILL, 1), 1);
+        due("voices of b in p", x.voices(1, 0, STILL, 1), 1);
+        due("voices of b in q", x.voices(1, 1, STILL, 1), 1);
+        due("voices of a in q", x.voices(0, 1, STILL, 1), 0);
+        due("voices of a in r", x.voices(0, 2, STILL, 1), 1);
+        x.blow(STILL, 1);
+        due("a has r", x.owner(0, 1), 4);
+        due("b has q", x.owner(1, 1), 2);
+        x.fell(0);
+        x.blow(STILL, 1);
+        due("a has r still", x.owner(0, 1), 4);
+        due("b has p and q", x.owner(1, 1), 3);
+        x.fell(1);
+        x.plant(0, 0, 0);
+        x.blow(STILL, 1);
+        due("a has p and r", x.owner(0, 1), 5);
+        due("b has q still", x.owner(1, 1), 2);
+        due("cells of a", x.owner(0, 0), 4);
+        due("cells of b", x.owner(1, 0), 2);
     }
 
     // 10: "5 LEAVES lost in the latest autumn (NONE: none was)"
@@ -817,7 +865,8 @@ public final class PromiseBoundsTest {
             due("ahead of one without a fault: " + what, x.rolled(what), NONE);
         }
         due("wrong", Due.roll(x, "blows south 2;blows south 2;fells 3;", 0), 2);
-        int[] want = {29, 2, 2, x.goes(0, SOUTH, 2)};
+        due("a would have it", x.goes(0, SOUTH, 2), 0);
+        int[] want = {29, 2, 2, 0};
         for (int what = 0; what < 4; what++) {
             due("rolled " + what, x.rolled(what), want[what]);
         }
@@ -826,6 +875,8 @@ public final class PromiseBoundsTest {
         for (int what = 0; what < 4; what++) {
             due("a fault leaves it: " + what, x.rolled(what), want[what]);
         }
+        due("nobody has it now", x.strip(0, 1), NONE);
+        due("an empty roll: as now", x.roll(0) + x.rolled(3), -2);
         LeafVotes y = Due.of("size 2 2;kind k 1 1;");
         due("without strips", Due.roll(y, "blows east 1;", 1), NONE);
         due("nobody has strip 0", y.rolled(3), NONE);
@@ -906,7 +957,10 @@ public final class PromiseBoundsTest {
         Due.sentence(x, "leaves > 1 or of k");
         String kept = land(x) + x.said(NONE) + x.said(0);
         x.image(1);
-        Due.parish(x, "size 9 1;owner z;kind w 1 1;");
+        Due.parish(x, "size 9 2;owner z;kind w 1 1 ever;strip f 8 0 1 2;strip g 5 0 2 1;");
+        Due.sentence(x, "not number < 99 and y = 3");
+        x.rake(8, 0);
+        x.wall(3, 0);
         x.image(0);
         Due.tape(x, "abcde");
         x.roll(9);
@@ -923,10 +977,18 @@ public final class PromiseBoundsTest {
         x.blow(EAST, 1);
         x.fell(0);
         Due.due("restored again", x.restore(1), true);
+        due("nothing can be undone again", x.undo(), NONE);
         Due.due("as kept again", kept.equals(land(x) + x.said(NONE) + x.said(0)), true);
         Due.due("the other", x.restore(0), true);
-        due("has no sentence", x.said(NONE), NONE);
-        due("is 9 1", x.count(0) * 10 + x.count(1), 91);
+        due("has its sentence", x.said(NONE), 0);
+        due("is 9 2", x.count(0) * 10 + x.count(1), 92);
+        due("has its strips' cells", x.strip(0, 0) * 10 + x.strip(1, 0), 22);
+        due("has its strips", x.cell(8, 0, 1) * 10 + x.cell(6, 0, 1), 1);
+        due("has what is raked", x.cell(8, 0, 4), 1);
+        due("has its wall", x.cell(3, 0, 3), 1);
+        x.plant(0, 7, 0);
+        due("has its strips' places", x.tree(0, 5), 3);
+        due("has its evergreen", Due.sentence(x, "ever") * 10 + x.said(NONE), 11);
         LeafVotes y = new LeafVotes();
         Due.due("nothing is kept in 0", y.restore(0), false);
         Due.due("nor in 1", y.restore(1), false);

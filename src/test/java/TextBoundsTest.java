@@ -405,6 +405,12 @@ public final class TextBoundsTest {
             Texts.parish("owner |" + word + ";", 1);
             Texts.parish("strip |" + word + " 0 0 1 1;", 1);
             Texts.parish("kind |" + word + " 1 1;", 1);
+            Texts.parish("field |" + word + " 0 0 1 1;", 1);
+            Texts.parish("tree |" + word + " 0 0;", 1);
+            Texts.roll("plants |" + word + " 0 0;", 1);
+            Texts.sentence("of |" + word, 1);
+            Texts.sentence("for |" + word, 1);
+            Texts.sentence("by |" + word, 1);
             if (word.length() < 7) {
                 Texts.parishStands("owner " + word + "q;", 1);
             }
@@ -549,6 +555,19 @@ public final class TextBoundsTest {
         Due.due("tree 0 is of kind 1", x.tree(0, 0), 1);
         Due.due("tree 1 is of kind 0", x.tree(1, 0), 0);
         Due.due("tree 0 is there", x.cell(5, 5, 2), 0);
+        // By their names, in a sentence and in a roll.
+        LeafVotes y = Due.of("size 9 1;strip p 0 0 1 1;strip q 4 0 1 1;strip r 8 0 1 1;kind k 1 1;kind l 1 1;kind m 1 1;kind n 1 1;kind o 1 1;"
+            + "tree k 0 0;tree l 3 0;tree m 5 0;tree n 8 0;");
+        String[] said = {"by p", "by q", "by r", "of k", "of l", "of m", "of n", "of o"};
+        int[] many = {1, 2, 1, 1, 1, 1, 1, 0};
+        int[] first = {0, 1, 3, 0, 1, 2, 3, -1};
+        for (int n = 0; n < said.length; n++) {
+            Due.due("a sentence: " + said[n], Due.sentence(y, said[n]), 1);
+            Due.due("how many: " + said[n], y.said(-1), many[n]);
+            Due.due("the first: " + said[n], y.said(0), first[n]);
+        }
+        Due.due("a roll of the last kind", Due.roll(y, "plants o 1 0;", 1), -1);
+        Due.due("it is of that kind", y.tree(4, 0), 4);
     }
 
     // "A ROLL is a text of at most 400 bytes"
@@ -713,6 +732,8 @@ public final class TextBoundsTest {
         Texts.sentence("not|", 1);
         Texts.sentence("alive and  |", 1);
         Texts.sentence("x <|", 1);
+        Texts.sentence("(alive|", 1);
+        Texts.sentence("((alive) |", 1);
     }
 
     // "the most bytes told, if there are more and no FAULT is ahead"
@@ -722,6 +743,15 @@ public final class TextBoundsTest {
         fault(Sort.PARISH, Texts.blanks("size 0 0;", 940), 5, 2);
         fault(Sort.PARISH, Texts.blanks("owner a;", 899) + ".........", 899, 1);
         fault(Sort.PARISH, Texts.blanks("owner a;", 900) + ".........", 900, 1);
+        // What begins at the most bytes told is not read: it would be another fault.
+        fault(Sort.PARISH, Texts.blanks("size 1 1;", 899) + "size 1 1;", 899, 3);
+        fault(Sort.PARISH, Texts.blanks("size 1 1;", 900) + "size 1 1;", 900, 1);
+        fault(Sort.PARISH, Texts.blanks("size", 899) + "0", 899, 2);
+        fault(Sort.PARISH, Texts.blanks("size", 900) + "0", 900, 1);
+        fault(Sort.ROLL, Texts.blanks("fells", 399) + "99;", 399, 2);
+        fault(Sort.ROLL, Texts.blanks("fells", 400) + "99;", 400, 1);
+        fault(Sort.SENTENCE, Texts.blanks("of", 199) + "elm", 199, 3);
+        fault(Sort.SENTENCE, Texts.blanks("of", 200) + "elm", 200, 1);
         fault(Sort.PARISH, Texts.blanks("owner a", 901), 900, 1);
         fault(Sort.PARISH, Texts.blanks("owner a;", 920) + "owner a;", 900, 1);
         fault(Sort.ROLL, Texts.blanks("rakes 0 0;rakes", 930) + "9 9;", 400, 1);
