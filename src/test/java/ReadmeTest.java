@@ -6,6 +6,7 @@ import java.lang.reflect.Modifier;
 import java.net.URL;
 import java.net.URLClassLoader;
 import java.nio.charset.StandardCharsets;
+import java.nio.file.DirectoryStream;
 import java.nio.file.Files;
 import java.nio.file.Path;
 import javax.tools.JavaCompiler;
@@ -17,7 +18,7 @@ public final class ReadmeTest {
         Path root = Path.of(System.getProperty("project.root", "."));
         String readme = Files.readString(root.resolve("README.md"));
         String told = block(readme, "text");
-        String printed = printed(block(readme, "java"), root.resolve("src/main/java/LeafVotes.java"));
+        String printed = printed(block(readme, "java"), root);
         Due.due("the example prints\n" + printed + "and README.md tells\n" + told, printed.equals(told), true);
         for (Method m : LeafVotes.class.getDeclaredMethods()) {
             if (Modifier.isPublic(m.getModifiers())) {
@@ -26,9 +27,11 @@ public final class ReadmeTest {
             }
         }
         Due.due("README.md says how tests are run", readme.contains(".ci/run"), true);
-        for (Path test : Files.newDirectoryStream(root.resolve("src/test/java"), "*Test.java")) {
-            String name = test.getFileName().toString().replace(".java", "");
-            Due.due("README.md names " + name, readme.contains("`" + name + "`"), true);
+        try (DirectoryStream<Path> tests = Files.newDirectoryStream(root.resolve("src/test/java"), "*Test.java")) {
+            for (Path test : tests) {
+                String name = test.getFileName().toString().replace(".java", "");
+                Due.due("README.md names " + name, readme.contains("`" + name + "`"), true);
+            }
         }
         Due.close();
     }
@@ -40,8 +43,9 @@ public final class ReadmeTest {
         return from >= 0 && to > from ? readme.substring(from + sort.length() + 4, to + 1) : "";
     }
 
-    private static String printed(String example, Path main) throws IOException, ReflectiveOperationException {
-        Path out = Files.createTempDirectory("readme");
+    private static String printed(String example, Path root) throws IOException, ReflectiveOperationException {
+        Path main = root.resolve("src/main/java/LeafVotes.java");
+        Path out = Files.createDirectories(root.resolve("build/readme"));
         Path source = out.resolve("Example.java");
         Files.writeString(source, example);
         JavaCompiler compiler = ToolProvider.getSystemJavaCompiler();
